@@ -341,7 +341,7 @@ public final class VerseBench {
 
     private int rhymeByCost(int w, int i) {
         if (i >= words.size()) return NONE;
-        for (int u = 0; u < words.size(); u++) nearKeys[u] = nearKey(w, u);
+        for (int u = 0; u < nearKeys.length; u++) nearKeys[u] = nearKey(w, u);
         int key = NONE;
         for (int k = 0; k <= i; k++) {
             key = nextNearKey(key);
@@ -361,8 +361,7 @@ public final class VerseBench {
 
     private int nextNearKey(int last) {
         int next = NONE;
-        for (int u = 0; u < words.size(); u++) {
-            int key = nearKeys[u];
+        for (int key : nearKeys) {
             if (key > last && (next == NONE || key < next)) next = key;
         }
         return next;
@@ -476,7 +475,7 @@ public final class VerseBench {
 
         Word(int heap) {
             this.heap = heap;
-            sayings = new ArrayList<Saying>(MOST_SAYINGS);
+            sayings = new ArrayList<Saying>();
             bytes = new byte[MOST_BYTES];
             length = NONE;
         }

@@ -390,8 +390,11 @@ final class PlainBench {
         return was;
     }
 
-    boolean linesRhyme(int a, int b) {
-        if (a == b) return false;
+    private boolean linesRhyme(int a, int b) {
+        return a != b && rhymeKnown.computeIfAbsent(16 * a + b, pair -> lastWordsRhyme(a, b));
+    }
+
+    private boolean lastWordsRhyme(int a, int b) {
         int w = lines.get(a)[lines.get(a).length - 1];
         int u = lines.get(b)[lines.get(b).length - 1];
         if (rhyme(w, u, 6) == 1) return true;
@@ -400,6 +403,7 @@ final class PlainBench {
 
     // within one call only
     private final Map<Integer, Boolean> fits = new HashMap<>();
+    private final Map<Integer, Boolean> rhymeKnown = new HashMap<>();
 
     int findingAt(int[] row, int i) {
         if (row[i] == NONE) return 1;
@@ -415,6 +419,7 @@ final class PlainBench {
 
     int check() {
         fits.clear();
+        rhymeKnown.clear();
         for (int i = 0; i < places; i++) {
             int finding = findingAt(stanza, i);
             if (finding != 0) return 10 * i + finding;
@@ -428,6 +433,7 @@ final class PlainBench {
         if (tries < 1 || tries > 20000) return BAD;
         done = 0;
         fits.clear();
+        rhymeKnown.clear();
         int[] row = stanza.clone();
         int answer = completeFrom(row, 0, tries);
         if (answer == 1) stanza = row;

@@ -1,6 +1,6 @@
 /** Runs of calls drawn from a told seed, each answered by the class and by PlainBench. */
 public final class RandomRunsTest {
-    private static final int RUNS = 3000, CALLS = 400;
+    private static final int RUNS = 1500, CALLS = 400;
     private static final int[] EDGES = {
         Integer.MIN_VALUE, Integer.MIN_VALUE + 1, -1000, -129, -128, -14, -13, -5, -3, -2, -1, 0, 1, 2, 3, 5, 6, 7, 8, 9,
         11, 12, 13, 14, 15, 16, 23, 24, 25, 39, 40, 47, 48, 100, 101, 127, 128, 255, 256, 531440, 531441, 19999, 20000,
@@ -16,6 +16,8 @@ public final class RandomRunsTest {
     private int soundRange;
     private int mostSounds;
     private int wild;
+    // a run of verse keeps to short lines, a short meter and a stanza that is nearly full
+    private boolean isVerse;
 
     private int below(int bound) {
         seed = seed * 6364136223846793005L + 1442695040888963407L;
@@ -29,7 +31,7 @@ public final class RandomRunsTest {
     /** Mostly a number from low to high; sometimes any other. */
     private int number(int low, int high) {
         if (below(100) >= wild) return low + below(Math.max(1, high - low + 1));
-        return below(3) == 0 ? (int) anyLong() : below(2) == 0 ? EDGES[below(EDGES.length)] : low - 1 + below(high - low + 3);
+        return below(3) == 0 ? (int) anyLong() : below(2) == 0 ? EDGES[below(EDGES.length)] : low - 1 + below(Math.max(1, high - low + 3));
     }
 
     private int anyWord() {
@@ -66,7 +68,7 @@ public final class RandomRunsTest {
     }
 
     private void callLine() {
-        int n = below(60) < wild ? number(-1, 10) : 1 + below(8);
+        int n = below(60) < wild ? number(-1, 10) : 1 + below(isVerse ? 3 : 8);
         int[] row = new int[Math.max(0, Math.min(n, 10))];
         for (int k = 0; k < row.length; k++) row[k] = below(200) < wild ? below(24) : below(Math.max(1, y.words.size()));
         long digits = below(200) < wild ? anyLong() : Dues.digits(24, row);
@@ -74,9 +76,10 @@ public final class RandomRunsTest {
     }
 
     private void callMeter() {
-        int n = number(1, 12);
+        if (isVerse && below(4) != 0) return;
+        int n = number(1, isVerse ? 4 : 12);
         int most = (int) Math.round(Math.pow(3, Math.max(0, Math.min(n, 12))));
-        int marks = below(60) < wild ? number(-1, most) : below(4) == 0 ? most - 1 : below(most);
+        int marks = below(60) < wild ? number(-1, most) : below(isVerse ? 2 : 4) == 0 ? most - 1 : below(most);
         due("meter(" + n + ", " + marks + ")", y.meter(n, marks), x.meter(n, marks));
     }
 
@@ -133,13 +136,13 @@ public final class RandomRunsTest {
             case 3: due("layings(" + a + ")", y.layings(a), x.layings(a)); break;
             case 4: due("laid(" + a + ")", y.laid(a), x.laid(a)); break;
             case 5: {
-                int placeHeap = number(0, 23);
+                int placeHeap = number(0, y.noLine(a) ? 23 : 6 * y.lines.get(a).length - 1);
                 int rhyme = below(2) == 0 ? -1 : anyWord();
                 b = number(0, 3);
                 due("fill(" + a + ", " + placeHeap + ", " + rhyme + ", " + b + ")", y.fill(a, placeHeap, rhyme, b), x.fill(a, placeHeap, rhyme, b));
                 break;
             }
-            case 6: b = number(0, 14); if (below(4) == 0) due("form(" + b + ")", y.form(b), x.form(b)); break;
+            case 6: b = number(0, isVerse ? 6 : 14); if (below(isVerse ? 40 : 4) == 0) due("form(" + b + ")", y.form(b), x.form(b)); break;
             case 7: {
                 int letter = below(2) == 0 ? number(0, 2) : number(0, 7);
                 int again = below(4) != 0 ? -1 : number(0, i - 1);
@@ -147,7 +150,7 @@ public final class RandomRunsTest {
                 break;
             }
             case 8: b = number(0, 1); due("loose(" + b + ")", y.loose(b), x.loose(b)); break;
-            case 9: if (below(2) == 0) a = -1; due("set(" + i + ", " + a + ")", y.set(i, a), x.set(i, a)); break;
+            case 9: if (below(isVerse ? 12 : 2) == 0) a = -1; due("set(" + i + ", " + a + ")", y.set(i, a), x.set(i, a)); break;
             case 10: due("check()", y.check(), x.check()); break;
             case 11: b = below(3) == 0 ? number(1, 20000) : number(1, 200); due("complete(" + b + ")", y.complete(b), x.complete(b)); break;
             case 12: due("stands(" + i + ")", y.stands(i), x.stands(i)); break;
@@ -163,7 +166,8 @@ public final class RandomRunsTest {
             else if (drawn < 90) callSaying();
             else if (drawn < 95) callLine();
             else if (drawn < 97) callOfWords(1);
-            else callOfLines(6);
+            else if (drawn < 98) callOfLines(6);
+            else callOfLines(9);
         } else if (drawn < 5) {
             callSaying();
         } else if (drawn < 35) {
@@ -176,9 +180,12 @@ public final class RandomRunsTest {
     private void oneRun() {
         x = new VerseBench();
         y = new PlainBench();
-        soundRange = 1 + below(4) * below(6);
-        mostSounds = 1 + below(below(4) == 0 ? 12 : 4);
+        isVerse = below(2) == 0;
+        soundRange = 1 + below(4) * below(isVerse ? 2 : 6);
+        mostSounds = 1 + below(!isVerse && below(4) == 0 ? 12 : 4);
         wild = below(3) == 0 ? 12 : below(2);
+        if (isVerse) due("form(5)", y.form(5), x.form(5));
+        if (isVerse) due("meter(2, 8)", y.meter(2, 8), x.meter(2, 8));
         for (call = 1; call <= CALLS && !dues.isAnyWrong(); call++) oneCall();
         for (int i = 0; i < 14; i++) due("stands(" + i + ")", y.stands(i), x.stands(i));
         for (int k = 0; k < 7; k++) due("count(" + k + ")", y.count(k), x.count(k));
