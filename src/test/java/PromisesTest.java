@@ -32,6 +32,9 @@ public final class PromisesTest {
 
     private static void promise1NewObject() {
         VerseBench x = new VerseBench();
+        int[] constants = {VerseBench.NONE, VerseBench.BAD, VerseBench.NO, VerseBench.FULL, VerseBench.SPENT, VerseBench.NOTHING, VerseBench.INDEX, VerseBench.SIZE};
+        int[] want = {NONE, BAD, -4, FULL, SPENT, NOTHING, INDEX, SIZE};
+        for (int k = 0; k < want.length; k++) due("1 constant " + k, want[k], constants[k]);
         for (int what : new int[] {0, 1, 2, 4, 5, 6}) due("1 count(" + what + ")", 0, x.count(what));
         due("1 count(3)", 1, x.count(3));
         due("1 check()", 0, x.check());
@@ -156,6 +159,8 @@ public final class PromisesTest {
             due("7 sound", BAD, x.speech(wrong, 1));
             due("7 said", BAD, x.speech(1, wrong));
         }
+        due("7 beyond the last sound", BAD, x.speech(40, 39));
+        due("7 said beyond the last sound", BAD, x.speech(39, 40));
         due("7 a vowel and one that is none", BAD, x.speech(9, 10));
         due("7 one that is none and a vowel", BAD, x.speech(10, 9));
         due("7 vowels", 1, x.speech(1, 9));
@@ -253,8 +258,11 @@ public final class PromisesTest {
         due("10 eye: others", 0, kinds(x));
         for (int k = 0; k < 3; k++) x.spell(1, k, k + 1);
         due("10 eye: the last three", eye, kinds(x));
-        x.spell(1, 0, 9);
-        due("10 eye: the third last", 0, kinds(x));
+        for (int k = 0; k < 3; k++) {
+            x.spell(1, k, 9);
+            due("10 eye: one of three is another", 0, kinds(x));
+            x.spell(1, k, k + 1);
+        }
     }
 
     private static void promise11How() {
@@ -341,6 +349,11 @@ public final class PromisesTest {
         due("13 perfect", 5, x.rhymes(0, 6, 1));
         int[] vowels = {1, 2, 3, 5, NONE};
         for (int i = 0; i < 5; i++) due("13 vowels", vowels[i], x.rhymes(0, 2, i));
+        due("13 word 0 is one too", 0, x.rhymes(2, 6, 0));
+        x.near(3);
+        due("13 at near", 3, x.rhymes(0, 4, 3));
+        x.near(2);
+        due("13 just beyond near", NONE, x.rhymes(0, 4, 2));
         due("13 none at all", NONE, x.rhymes(4, 3, 0));
         due("13 eye", NONE, x.rhymes(0, 5, 0));
         x.writing(0, 3);
@@ -396,6 +409,7 @@ public final class PromisesTest {
         for (int n = 1; n <= 12; n++) {
             most *= 3;
             due("15 most of " + n, n, x.meter(n, most - 1));
+            due("15 all weak", n, x.meter(n, 0));
             due("15 more than told", BAD, x.meter(n, most));
             due("15 far more", BAD, x.meter(n, HIGH));
             due("15 below", BAD, x.meter(n, -1));
@@ -688,6 +702,10 @@ public final class PromisesTest {
         letters(z, 0, 0, 0);
         dueCheck("the nearest, not the first", 15, z, 0, 1, 3);
         sameLastWord();
+        VerseBench u = stanza(1);
+        dueCheck("it fits", 0, u, 0);
+        Dues.marks(u, 0);
+        due("25 another meter, and it does not", 4, u.check());
     }
 
     private static void sameLastWord() {
