@@ -253,7 +253,7 @@ public final class VerseBench {
         if (tries < 1 || tries > MOST_TRIES) return BAD;
         forgetMemos();
         triesLeft = tries;
-        int answer = fillFrom(0, 0);
+        int answer = fillFrom(this, 0, 0);
         if (answer == 1) System.arraycopy(pattern.trial, 0, pattern.stanza, 0, pattern.size);
         return answer;
     }
@@ -450,17 +450,17 @@ public final class VerseBench {
     }
 
     /** Fills the trial row from a place on, at most as deep as a form has places: 1, 0 or SPENT. */
-    private int fillFrom(int i, int used) {
-        if (i >= pattern.size) return 1;
-        int given = pattern.givenAt(i);
+    private static int fillFrom(VerseBench bench, int i, int used) {
+        if (i >= bench.pattern.size) return 1;
+        int given = bench.pattern.givenAt(i);
         boolean isOpen = given == NONE;
-        int last = isOpen ? lines.size() - 1 : given;
+        int last = isOpen ? bench.lines.size() - 1 : given;
         for (int line = isOpen ? 0 : given; line <= last; line++) {
-            if (isOpen && triesLeft <= 0) return SPENT;
-            if (isOpen) triesLeft--;
-            pattern.trial[i] = line;
-            if (findingAt(pattern.trial, i, used) != 0) continue;
-            int answer = fillFrom(i + 1, used | 1 << line);
+            if (isOpen && bench.triesLeft <= 0) return SPENT;
+            if (isOpen) bench.triesLeft--;
+            bench.pattern.trial[i] = line;
+            if (bench.findingAt(bench.pattern.trial, i, used) != 0) continue;
+            int answer = fillFrom(bench, i + 1, used | 1 << line);
             if (answer != 0) return answer;
         }
         return 0;

@@ -611,6 +611,11 @@ public final class PromisesTest {
         due("21 all of letter 0", 15, x.check());
         x.set(1, 0);
         due("21 none again", 13, x.check());
+        x.place(1, 1, NONE);
+        x.form(2);
+        x.place(1, 0, NONE);
+        setAll(x, 0, 1);
+        due("21 the first is of letter 0", 15, x.check());
         due("21 none", 0, x.form(0));
         due("21 of none", 0, x.check());
         due("21 a place of none", BAD, x.set(0, 0));
