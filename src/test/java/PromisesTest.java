@@ -1,33 +1,9 @@
 /** Each promise of the document by itself: ordinary inputs, the edges that it names, wrong inputs. */
-public final class PromisesTest {
-    private static final int NONE = -1, BAD = -3, FULL = -5, SPENT = -6, NOTHING = -11, INDEX = -13, SIZE = -14;
-    private static final int LOW = Integer.MIN_VALUE, HIGH = Integer.MAX_VALUE;
+public final class PromisesTest extends Benches {
     private static final Dues DUES = new Dues("PromisesTest");
 
     private static void due(String call, int want, int got) {
         DUES.due(call, want, got);
-    }
-
-    private static int v(int vowel, int stress) {
-        return Dues.vowel(vowel, stress);
-    }
-
-    /** A bench with so many words in heap 0, none of them said or written. */
-    private static VerseBench words(int many) {
-        VerseBench x = new VerseBench();
-        for (int k = 0; k < many; k++) x.word(0);
-        return x;
-    }
-
-    /** A bench whose word k has one saying, the k-th of these rows. */
-    private static VerseBench said(int[]... rows) {
-        VerseBench x = words(rows.length);
-        for (int k = 0; k < rows.length; k++) Dues.say(x, k, rows[k]);
-        return x;
-    }
-
-    private static int[] row(int... bytes) {
-        return bytes;
     }
 
     private static void promise1NewObject() {
@@ -115,13 +91,6 @@ public final class PromisesTest {
         due("5 most", 1127, x.spell(0, 1, -1));
         due("5 below", 999, x.spell(0, 1, 0));
         due("5 other place", 1000, x.spell(0, 0, 0));
-    }
-
-    private static VerseBench written(int... bytes) {
-        VerseBench x = words(3);
-        x.writing(0, bytes.length);
-        for (int k = 0; k < bytes.length; k++) x.spell(0, k, bytes[k]);
-        return x;
     }
 
     private static void dueWriting(VerseBench x, int word, int... bytes) {
@@ -460,13 +429,6 @@ public final class PromisesTest {
         for (int wrong : new int[] {-1, LOW}) due("17 i", BAD, x.inLine(0, wrong));
     }
 
-    /** A bench with one line of one syllable a word, of these stresses. */
-    private static VerseBench stressed(int... stresses) {
-        VerseBench x = said(row(v(0, 0)), row(v(0, 1)), row(v(0, 2)));
-        Dues.lineOf(x, stresses);
-        return x;
-    }
-
     private static void dueLaid(String what, int layings, int least, VerseBench x, int... marks) {
         Dues.marks(x, marks);
         due("18 " + what, layings, x.layings(0));
@@ -571,24 +533,6 @@ public final class PromisesTest {
         for (int wrong : new int[] {-2, 7, LOW, HIGH}) due("20 rhyme", BAD, x.fill(0, 0, wrong, 0));
         for (int wrong : new int[] {-1, LOW}) due("20 i", BAD, x.fill(0, 0, NONE, wrong));
         due("20 the line stays", 4, x.inLine(0, 1));
-    }
-
-    /** Lines 0 .. 5: last words of 0, 2, 4 rhyme, those of 1, 3 too, that of 5 with none; line 6 does not fit. */
-    private static VerseBench stanza(int places) {
-        VerseBench x = said(row(10, v(1, 2), 12), row(10, v(2, 2), 13), row(11, v(1, 2), 12), row(11, v(2, 2), 13),
-            row(12, v(1, 2), 12), row(v(3, 2), 14, 14, 14), row(v(1, 2), v(1, 2), 12));
-        for (int k = 0; k < 7; k++) Dues.lineOf(x, k);
-        Dues.marks(x, 1);
-        x.form(places);
-        return x;
-    }
-
-    private static void setAll(VerseBench x, int... lines) {
-        for (int i = 0; i < lines.length; i++) x.set(i, lines[i]);
-    }
-
-    private static void letters(VerseBench x, int... letters) {
-        for (int i = 0; i < letters.length; i++) x.place(i, letters[i], NONE);
     }
 
     private static void dueStands(String what, VerseBench x, int... lines) {
