@@ -231,6 +231,15 @@ final class EdgesOfForms extends Benches {
         dueCheck("right ahead", 13, lettered(0, 1), 0, 0);
         dueCheck("far ahead, of another letter", 53, lettered(0, 1, 2, 3, 4, 5), 0, 1, 2, 3, 4, 0);
         dueCheck("behind it does not count", 0, lettered(0, 1, 0), 0, 1, 2);
+        VerseBench all = words(1);
+        Dues.say(all, 0, v(1, 0));
+        all.form(2);
+        all.place(1, 1, NONE);
+        for (int line = 0; line < 16; line++) {
+            Dues.lineOf(all, 0);
+            dueCheck("line " + line + " twice", 13, all, line, line);
+            if (line > 0) dueCheck("line " + line + " and the one ahead", 0, all, line - 1, line);
+        }
         VerseBench y = lettered(0, 1, 0);
         y.place(1, 1, 0);
         dueCheck("one that is there again", 23, y, 0, 0, 0);
@@ -286,6 +295,31 @@ final class EdgesOfForms extends Benches {
         u.place(2, 0, 1);
         u.place(3, 0, 1);
         dueCheck("past those with its own line, to one that it does not rhyme with", 25, u, 0, 1, 1, 1);
+        everyPair();
+    }
+
+    /** Four places of two letters, and lines 0 .. 15, of which those rhyme whose numbers are alike modulo 4. */
+    private static VerseBench sixteen() {
+        VerseBench x = words(16);
+        for (int w = 0; w < 16; w++) Dues.say(x, w, 10 + w, v(1, 2), 30 + w % 4);
+        for (int w = 0; w < 16; w++) Dues.lineOf(x, w);
+        Dues.marks(x, 1);
+        x.form(4);
+        letters(x, 0, 0, 1, 1);
+        return x;
+    }
+
+    private void everyPair() {
+        for (int one = 0; one < 16; one++) {
+            VerseBench x = sixteen();
+            for (int two = 0; two < 16; two++) {
+                if (two == one) continue;
+                dueCheck("lines " + one + " and " + two, one % 4 == two % 4 ? 21 : 15, x, one, two);
+            }
+        }
+        // the numbers of both pairs make up one sum; the first pair rhymes, the second does not
+        dueCheck("2 and 6, then 3 and 5", 35, sixteen(), 2, 6, 3, 5);
+        dueCheck("8 and 12, then 9 and 11", 35, sixteen(), 8, 12, 9, 11);
     }
 
     private void firstFinding() {
@@ -569,6 +603,10 @@ final class EdgesOfForms extends Benches {
         s.due("not again the tries of the last call", SPENT, z.complete(2));
         s.due("but all of them", 1, z.complete(4));
         dueStands("then", z, 0, 1, 2);
+        setAll(z, NONE, 1, NONE);
+        s.due("many tries that are not needed", 1, z.complete(20000));
+        setAll(z, NONE, 1, NONE);
+        s.due("are not there for the next call", SPENT, z.complete(3));
     }
 
     private static VerseBench told(int... lines) {

@@ -63,6 +63,16 @@ final class EdgesOfRhymes extends Benches {
         s.due("ahead", RICH | VOWELS | ENDS | NEAR | PERFECT, kinds(x));
         x.speech(12, 39);
         s.due("23 as 12, not as 12 as 39", VOWELS | NEAR, kinds(x));
+        for (int one = 0; one <= 1; one++) {
+            VerseBench y = said(row(v(1, 2), 10), row(v(1, 2), 11));
+            s.due("the cost before", 6, y.cost(one, 1 - one));
+            y.speech(11, 15);
+            s.due("the cost as they sound", 3, y.cost(one, 1 - one));
+            y.speech(10, 15);
+            s.due("the cost as both sound", 0, y.cost(one, 1 - one));
+            y.near(0);
+            s.due("near as they sound", 1, y.rhyme(one, 1 - one, 4));
+        }
     }
 
     private void rhymesAndRichOnes() {
@@ -212,6 +222,9 @@ final class EdgesOfRhymes extends Benches {
         dueCost("another, not left out and put in", 3, row(v(1, 2), 10), row(v(1, 2), 15));
         dueCost("the one that is cheaper to keep", 8, row(v(1, 2), 10, 11), row(v(1, 2), 16));
         dueCost("the last of three", 10, row(v(1, 2), 10, 11, 12), row(v(1, 2), 12));
+        dueCost("a later vowel for the first one", 8, row(v(1, 2)), row(v(2, 2), v(1, 0)));
+        dueCost("a later vowel for the first one, past another sound", 13, row(v(1, 2)), row(11, v(2, 2), 10, v(1, 0)));
+        dueCost("a later vowel for the first one, past eleven sounds", 8 + 5 * 10, row(v(1, 2)), row(v(2, 2), 10, 11, 12, 13, 14, 15, 16, 17, 18, 19, v(1, 0)));
         dueCost("rows of twelve", 143, row(v(1, 2), 1, 1, 1, 1, 1, 1, 1, 1, 1, 1, 1), row(v(1, 2), 10, 10, 10, 10, 10, 10, 10, 10, 10, 10, 10));
         s.term(2, "one left out, or put in: 8 for a VOWEL, 5 for others;", 12);
         dueCost("a vowel", 8, row(v(1, 2), v(9, 0)), row(v(1, 2)));
@@ -280,6 +293,10 @@ final class EdgesOfRhymes extends Benches {
         duePairs("u, then v", said(whole, row(v(1, 2), 12), row(v(2, 0), 13)), 0, 24 + 2, 2 * 24);
         duePairs("one sound less of u", said(whole, row(v(1, 2)), row(v(2, 0), 13)), 0, 2 * 24);
         duePairs("one sound less of v", said(whole, row(v(1, 2), 12), row(v(2, 0))), 0, 2 * 24);
+        duePairs("the last sound of u is another", said(whole, row(v(1, 2), 11), row(v(2, 0), 13)), 0, 2 * 24);
+        duePairs("the vowel of u is another", said(whole, row(v(3, 2), 12), row(v(2, 0), 13)), 0, 2 * 24);
+        duePairs("the vowel of v is another", said(whole, row(v(1, 2), 12), row(v(3, 0), 13)), 0, 2 * 24);
+        duePairs("the last sound of v is another", said(whole, row(v(1, 2), 12), row(v(2, 0), 12)), 0, 2 * 24);
         duePairs("one sound more between", said(whole, row(v(1, 2), 12), row(12, v(2, 0), 13)), 0, 2 * 24);
         VerseBench x = said(whole, row(v(9, 2)), row(v(9, 0)));
         for (int k = 0; k < 2; k++) Dues.say(x, 1, v(k == 1 ? 1 : 8, 2), 12);
@@ -457,6 +474,13 @@ final class EdgesOfRhymes extends Benches {
             for (int i : new int[] {23, 24, 1000, HIGH}) s.due("kind " + kind + ", i " + i, NONE, x.rhymes(0, kind, i));
         }
         s.due("a word that is not said", NONE, y.rhymes(23, 4, 0));
+        VerseBench two = words(24);
+        for (int w = 0; w < 24; w++) Dues.say(two, w, v(w < 3 ? 1 : 2, 2), w < 3 ? 10 : 10 + w);
+        two.near(0);
+        for (int kind : new int[] {1, 2, 3, 6, 4}) {
+            s.due("the last of two of kind " + kind, 2, two.rhymes(0, kind, 1));
+            for (int i = 2; i <= 25; i++) s.due("kind " + kind + ", i " + i, NONE, two.rhymes(0, kind, i));
+        }
         s.promise(13, "BAD: also i is below 0.");
         Supplier<VerseBench> made = EdgesOfWords::rich;
         for (int wrong : new int[] {-1, 6, 24, LOW, HIGH}) s.refused("w " + wrong, BAD, made, z -> z.rhymes(wrong, 6, 0));

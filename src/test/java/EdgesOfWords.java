@@ -83,10 +83,10 @@ final class EdgesOfWords extends Benches {
         for (int k = 0; k < 16; k++) s.due("call " + (k + 97), k, x.line(8, 0));
         s.due("call 113", 12, x.meter(12, 531440));
         s.due("call 114", 14, x.form(14));
-        for (int k = 115; k < 512; k += 3) {
-            s.due("call " + k, 1000000, x.layings(15));
-            s.due("call " + (k + 1), 1, x.rhyme(23, 0, 6));
-            if (k + 2 < 512) s.due("call " + (k + 2), NONE, x.set(13, NONE));
+        for (int call = 115; call < 512; call++) {
+            if (call % 3 == 0) s.due("call " + call, 1000000, x.layings(15));
+            if (call % 3 == 1) s.due("call " + call, 1, x.rhyme(23, 0, 6));
+            if (call % 3 == 2) s.due("call " + call, NONE, x.set(13, NONE));
         }
         s.due("call 512", 84 * 2 - 1, x.laid(0));
     }
